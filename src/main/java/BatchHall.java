@@ -1150,6 +1150,7 @@ public final class BatchHall {
                 return;
             }
             if (phase.kind == REACT) {
+                // If this ABORTED the batch, the token is no longer one of its tokens.
                 react(batch, token.at, unitFor(batch, phase.a));
             }
             token.begun = false;

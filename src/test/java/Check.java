@@ -1,0 +1,57 @@
+/** Counts what is not as due; a test's main method ends with end(). */
+final class Check {
+    private static int wrong = 0;
+    private static int asked = 0;
+
+    private Check() {
+    }
+
+    static void same(String what, long got, long want) {
+        asked++;
+        if (got != want) {
+            wrong++;
+            System.out.println(what + " answered " + got + ", due is " + want);
+        }
+    }
+
+    static void yes(String what, boolean got) {
+        same(what, got ? 1 : 0, 1);
+    }
+
+    static void no(String what, boolean got) {
+        same(what, got ? 1 : 0, 0);
+    }
+
+    static void badArgument(String what, Runnable call) {
+        thrown(what, call, "IllegalArgumentException");
+    }
+
+    static void badState(String what, Runnable call) {
+        thrown(what, call, "IllegalStateException");
+    }
+
+    private static void thrown(String what, Runnable call, String want) {
+        asked++;
+        String got = "nothing";
+        try {
+            call.run();
+        } catch (RuntimeException e) {
+            got = e.getClass().getSimpleName();
+        }
+        if (!got.equals(want)) {
+            wrong++;
+            System.out.println(what + " threw " + got + ", due is " + want);
+        }
+    }
+
+    static boolean isAllRight() {
+        return wrong == 0;
+    }
+
+    static void end() {
+        System.out.println(asked + " answers, " + wrong + " not as due");
+        if (wrong != 0) {
+            System.exit(1);
+        }
+    }
+}
