@@ -1,43 +1,11 @@
-/** Promises 7 to 13, 15, 17: batch, start, tick, hold, restart, stop, abort, batchIs, unitOf, and CLAIMS. */
+/** Promises 8 to 13 and 15: what becomes of batches that are started, held, restarted, stopped and aborted. */
 public final class BatchTest extends Charts {
-    private static final int MADE = 0;
-    private static final int WAITING = 1;
-    private static final int RUNNING = 2;
-    private static final int HELD = 3;
-    private static final int STOPPING = 4;
-    private static final int STOPPED = 5;
-    private static final int ABORTED = 6;
-    private static final int COMPLETE = 7;
-    private static final int[] NO_ROLES = {3, 3, 3};
-
-    private static void stateIs(BatchHall hall, int batch, int want) {
-        Check.same("state of " + batch, hall.batchIs(batch, 0), want);
-    }
-
     private static BatchHall heating(int ticks) {
         return released(heat(0, ticks, 1), end());
     }
 
-    private static void batch() {
-        BatchHall hall = heating(1);
-        Check.badArgument("no such recipe", () -> hall.batch(4, 1));
-        Check.badArgument("no such recipe", () -> hall.batch(-1, 1));
-        Check.badArgument("size 1001", () -> hall.batch(0, 1001));
-        Check.badArgument("size -1", () -> hall.batch(0, -1));
-        Check.badArgument("no such size of one that isn't released", () -> hall.batch(1, 1001));
-        Check.badState("not released", () -> hall.batch(1, 1));
-        Check.same("the first", hall.batch(0, 1000), 0);
-        Check.same("the second", hall.batch(0, 0), 1);
-        Check.same("its size", hall.batchIs(0, 2), 1000);
-        for (int i = 2; i < 16; i++) {
-            Check.same("batch " + i, hall.batch(0, i), i);
-        }
-        Check.badState("a 17th", () -> hall.batch(0, 1));
-        Check.badArgument("a 17th of no such size", () -> hall.batch(0, 1001));
-        Check.same("there is none such", hall.batchIs(16, 0), -1);
-    }
-
     private static void batchIs() {
+        Check.about("A batch: 0 its state, 1 recipe, 2 size, 3 how many tokens, 4 how many phases have begun");
         BatchHall hall = released(fork(1, 2), heat(0, 2, 3), heat(0, 1, 3),
                 join(4), end());
         release(hall, 2, NO_ROLES, end());
@@ -59,6 +27,7 @@ public final class BatchTest extends Charts {
     }
 
     private static void start() {
+        Check.about("A batch that is MADE is WAITING, or RUNNING at once: its state.");
         BatchHall hall = heating(2);
         release(hall, 1, NO_ROLES, end());
         for (int i = 0; i < 3; i++) {
@@ -78,120 +47,8 @@ public final class BatchTest extends Charts {
         }
     }
 
-    private static void unitOf() {
-        BatchHall hall = new BatchHall();
-        hall.unit(0, 1);
-        hall.unit(4, 1);
-        release(hall, 0, new int[] {1, 0, 1}, heat(0, 1, 1), end());
-        release(hall, 1, new int[] {3, 3, 0}, heat(2, 5, 1), end());
-        hall.batch(0, 0);
-        hall.batch(1, 0);
-        Check.same("of one that is MADE", hall.unitOf(0, 0), -1);
-        hall.start(0);
-        hall.start(1);
-        Check.same("the least of class 1", hall.unitOf(0, 0), 0);
-        Check.same("the least of class 0", hall.unitOf(0, 1), 1);
-        Check.same("the next of class 1", hall.unitOf(0, 2), 4);
-        Check.same("the owner", hall.unitIs(4, 0), 0);
-        Check.same("no such role", hall.unitOf(0, 3), -1);
-        Check.same("no such role", hall.unitOf(0, -1), -1);
-        Check.same("no such batch", hall.unitOf(2, 0), -1);
-        Check.same("no such batch", hall.unitOf(-1, 0), -1);
-        Check.same("a role without a class", hall.unitOf(1, 0), -1);
-        Check.same("another batch's", hall.unitOf(1, 2), 2);
-        hall.tick();
-        Check.same("given back", hall.unitOf(0, 0), -1);
-        Check.same("no owner", hall.unitIs(4, 0), -1);
-        Check.same("still owned", hall.unitIs(2, 0), 1);
-    }
-
-    /** Units 0 to 2 are of class 0, 3 and 4 of class 1, 5 of class 2. */
-    private static BatchHall threeClasses() {
-        BatchHall hall = new BatchHall();
-        hall.unit(3, 1);
-        hall.unit(4, 1);
-        hall.unit(5, 2);
-        release(hall, 0, new int[] {0, 0, 3}, heat(0, 2, 1), end());
-        release(hall, 1, new int[] {0, 1, 3}, heat(0, 2, 1), end());
-        release(hall, 2, new int[] {1, 3, 3}, heat(0, 2, 1), end());
-        release(hall, 3, new int[] {3, 3, 2}, heat(2, 2, 1), end());
-        return hall;
-    }
-
-    private static void claims() {
-        BatchHall hall = threeClasses();
-        int[] recipes = {0, 0, 1, 2, 3};
-        for (int recipe : recipes) {
-            hall.batch(recipe, 0);
-        }
-        Check.same("two of class 0", hall.start(0), RUNNING);
-        Check.same("one of class 0 is too few", hall.start(1), WAITING);
-        Check.same("class 0 is wanted by one before", hall.start(2), WAITING);
-        Check.same("class 1 is wanted by one before", hall.start(3), WAITING);
-        Check.same("class 2 isn't", hall.start(4), RUNNING);
-        hall.abort(1);
-        stateIs(hall, 2, RUNNING);
-        stateIs(hall, 3, RUNNING);
-        Check.same("role 0 has the least left", hall.unitOf(2, 0), 2);
-        Check.same("role 1 of class 1", hall.unitOf(2, 1), 3);
-        Check.same("the one behind it", hall.unitOf(3, 0), 4);
-    }
-
-    private static void claimsInOrderOfStart() {
-        BatchHall hall = threeClasses();
-        for (int i = 0; i < 3; i++) {
-            hall.batch(3, 0);
-        }
-        hall.start(2);
-        hall.start(1);
-        hall.start(0);
-        hall.tick();
-        Check.same("2 is over, 1 has its unit but doesn't go on", hall.tick(), 1);
-        stateIs(hall, 2, COMPLETE);
-        stateIs(hall, 1, RUNNING);
-        stateIs(hall, 0, WAITING);
-        hall.tick();
-        stateIs(hall, 1, RUNNING);
-        hall.tick();
-        stateIs(hall, 1, COMPLETE);
-        stateIs(hall, 0, RUNNING);
-    }
-
-    private static void claimsNotByUnit() {
-        BatchHall hall = threeClasses();
-        hall.batch(3, 0);
-        hall.batch(3, 0);
-        hall.batch(2, 0);
-        hall.start(0);
-        hall.start(1);
-        hall.unit(0, 2);
-        stateIs(hall, 1, WAITING);
-        hall.tick();
-        stateIs(hall, 1, WAITING);
-        Check.same("another one's start serves it", hall.start(2), RUNNING);
-        stateIs(hall, 1, RUNNING);
-        Check.same("its unit", hall.unitOf(1, 2), 0);
-    }
-
-    private static void overAtOnceServesTheNext() {
-        BatchHall hall = new BatchHall();
-        hall.unit(5, 2);
-        release(hall, 0, new int[] {2, 3, 3}, heat(0, 1, 1), end());
-        release(hall, 1, new int[] {2, 3, 3}, end());
-        int[] recipes = {0, 1, 1, 0};
-        for (int recipe : recipes) {
-            hall.batch(recipe, 0);
-        }
-        for (int i = 0; i < 4; i++) {
-            hall.start(i);
-        }
-        Check.same("0, 1, 2 are over, and 3, too, in one tick", hall.tick(), 0);
-        stateIs(hall, 1, COMPLETE);
-        stateIs(hall, 2, COMPLETE);
-        stateIs(hall, 3, COMPLETE);
-    }
-
     private static void tick() {
+        Check.about("how many batches are RUNNING, HELD or STOPPING behind it");
         BatchHall hall = heating(2);
         for (int i = 0; i < 5; i++) {
             hall.batch(0, 0);
@@ -218,6 +75,7 @@ public final class BatchTest extends Charts {
     }
 
     private static void hold() {
+        Check.about("A RUNNING batch is HELD (its phases rest; what is measured counts).");
         BatchHall hall = heating(2);
         for (int i = 0; i < 3; i++) {
             hall.batch(0, 0);
@@ -244,6 +102,7 @@ public final class BatchTest extends Charts {
     }
 
     private static void restart() {
+        Check.about("A HELD batch is RUNNING again (its tokens stay till the next tick): its state.");
         BatchHall hall = heating(2);
         hall.batch(0, 0);
         Check.badState("restart of one that is MADE", () -> hall.restart(0));
@@ -263,6 +122,7 @@ public final class BatchTest extends Charts {
     }
 
     private static void stop() {
+        Check.about("A RUNNING or HELD batch is STOPPING: only phases that have begun go on");
         BatchHall hall = released(fork(1, 2), heat(0, 2, 4), heat(1, 1, 3),
                 heat(1, 1, 4), join(5), end());
         for (int i = 0; i < 3; i++) {
@@ -292,6 +152,7 @@ public final class BatchTest extends Charts {
     }
 
     private static void abort() {
+        Check.about("A batch is ABORTED.");
         BatchHall hall = heating(3);
         for (int i = 0; i < 6; i++) {
             hall.batch(0, 0);
@@ -325,14 +186,8 @@ public final class BatchTest extends Charts {
     }
 
     public static void main(String[] args) {
-        batch();
         batchIs();
         start();
-        unitOf();
-        claims();
-        claimsInOrderOfStart();
-        claimsNotByUnit();
-        overAtOnceServesTheNext();
         tick();
         hold();
         restart();

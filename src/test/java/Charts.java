@@ -1,5 +1,20 @@
 /** What tests that write charts are built upon: a chart's rows are kind, a, b, c, NEXT, OTHER. */
 abstract class Charts {
+    static final int FAR = Integer.MAX_VALUE;
+    static final int LOW = Integer.MIN_VALUE;
+
+    static final int MADE = 0;
+    static final int WAITING = 1;
+    static final int RUNNING = 2;
+    static final int HELD = 3;
+    static final int STOPPING = 4;
+    static final int STOPPED = 5;
+    static final int ABORTED = 6;
+    static final int COMPLETE = 7;
+
+    static final int[] NO_ROLES = {3, 3, 3};
+    static final int[] ONE_ROLE = {0, 3, 3};
+
     /** A new hall with one recipe, whose three roles are of class 0, as all units are. */
     static BatchHall write(int recipe, int[]... rows) {
         BatchHall hall = new BatchHall();
@@ -13,13 +28,21 @@ abstract class Charts {
         return hall;
     }
 
+    /** Batch 0 of a released recipe, started; its roles 0 to 2 have the units 0 to 2. */
+    static BatchHall running(int size, int[]... rows) {
+        BatchHall hall = released(rows);
+        hall.batch(0, size);
+        hall.start(0);
+        return hall;
+    }
+
     /** A recipe more, released. */
     static void release(BatchHall hall, int recipe, int[] groups, int[]... rows) {
         append(hall, recipe, groups, rows);
         Check.same("release", hall.release(recipe), 0);
     }
 
-    private static void append(BatchHall hall, int recipe, int[] groups, int[]... rows) {
+    static void append(BatchHall hall, int recipe, int[] groups, int[]... rows) {
         for (int role = 0; role < 3; role++) {
             hall.role(recipe, role, groups[role]);
         }
@@ -29,6 +52,48 @@ abstract class Charts {
         for (int i = 0; i < rows.length; i++) {
             hall.link(recipe, i, rows[i][4], rows[i][5]);
         }
+    }
+
+    /** Beside the first of so many numbers, beside the last, and as far away as can be. */
+    static int[] outside(int count) {
+        return new int[] {-1, count, LOW, FAR};
+    }
+
+    static void makeBatches(BatchHall hall, int... recipes) {
+        for (int recipe : recipes) {
+            hall.batch(recipe, 0);
+        }
+    }
+
+    static void ticks(BatchHall hall, int count) {
+        for (int i = 0; i < count; i++) {
+            hall.tick();
+        }
+    }
+
+    static void stateIs(BatchHall hall, int batch, int want) {
+        Check.same("state of " + batch, hall.batchIs(batch, 0), want);
+    }
+
+    static void tokensAre(String what, BatchHall hall, int... want) {
+        for (int i = 0; i < want.length; i++) {
+            Check.same(what + ": token " + i, hall.token(0, i), want[i]);
+        }
+        Check.same(what + ": no token more", hall.token(0, want.length), -1);
+        Check.same(what + ": how many", hall.batchIs(0, 3), want.length);
+    }
+
+    /** What is wanted is lot, amount, lot, amount, .. */
+    static void contentIs(String what, BatchHall hall, int unit, int... want) {
+        int all = 0;
+        for (int i = 0; i < want.length / 2; i++) {
+            Check.same(what + ": lot " + i + " in " + unit, hall.content(unit, i, 0), want[2 * i]);
+            Check.same(what + ": amount " + i + " in " + unit, hall.content(unit, i, 1), want[2 * i + 1]);
+            all += want[2 * i + 1];
+        }
+        Check.same(what + ": no lot more", hall.content(unit, want.length / 2, 0), -1);
+        Check.same(what + ": how many", hall.unitIs(unit, 2), want.length / 2);
+        Check.same(what + ": how much", hall.unitIs(unit, 3), all);
     }
 
     static int[] row(int kind, int a, int b, int c, int next, int other) {
@@ -73,6 +138,10 @@ abstract class Charts {
 
     static int[] loop(int next, int other) {
         return row(8, 1, 0, 0, next, other);
+    }
+
+    static int[] loop(int times, int next, int other) {
+        return row(8, times, 0, 0, next, other);
     }
 
     static int[] end() {

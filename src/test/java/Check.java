@@ -2,15 +2,27 @@
 final class Check {
     private static int wrong = 0;
     private static int asked = 0;
+    private static String sentence = "";
 
     private Check() {
+    }
+
+    /** The document's sentence that the checks from here on would miss; it is told with each that fails. */
+    static void about(String words) {
+        sentence = "\"" + words + "\" ";
     }
 
     static void same(String what, long got, long want) {
         asked++;
         if (got != want) {
-            wrong++;
-            System.out.println(what + " answered " + got + ", due is " + want);
+            fail(what + " answered " + got + ", due is " + want);
+        }
+    }
+
+    static void sameText(String what, String got, String want) {
+        asked++;
+        if (!got.equals(want)) {
+            fail(what + " is " + got + ", due is " + want);
         }
     }
 
@@ -39,9 +51,13 @@ final class Check {
             got = e.getClass().getSimpleName();
         }
         if (!got.equals(want)) {
-            wrong++;
-            System.out.println(what + " threw " + got + ", due is " + want);
+            fail(what + " threw " + got + ", due is " + want);
         }
+    }
+
+    private static void fail(String what) {
+        wrong++;
+        System.out.println(sentence + what);
     }
 
     static boolean isAllRight() {

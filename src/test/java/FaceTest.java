@@ -57,6 +57,7 @@ public final class FaceTest {
     }
 
     private static void newObject() {
+        Check.about("Units of class 0 without content, empty recipes, no batches, no lots.");
         BatchHall hall = new BatchHall();
         for (int unit = 0; unit < 6; unit++) {
             Check.same("owner of " + unit, hall.unitIs(unit, 0), -1);

@@ -1,34 +1,7 @@
 /** Promises 18 to 23: unitIs, content, lot, from, trace, lots, and what CHARGE, MOVE and REACT do. */
 public final class MaterialTest extends Charts {
-    private static final int FAR = Integer.MAX_VALUE;
-
-    private static void ticks(BatchHall hall, int count) {
-        for (int i = 0; i < count; i++) {
-            hall.tick();
-        }
-    }
-
-    private static BatchHall running(int size, int[]... rows) {
-        BatchHall hall = released(rows);
-        hall.batch(0, size);
-        hall.start(0);
-        return hall;
-    }
-
-    /** The rest of the rows is lot, amount, lot, amount, .. */
-    private static void contentIs(String what, BatchHall hall, int unit, int... want) {
-        int all = 0;
-        for (int i = 0; i < want.length / 2; i++) {
-            Check.same(what + ": lot " + i + " in " + unit, hall.content(unit, i, 0), want[2 * i]);
-            Check.same(what + ": amount " + i + " in " + unit, hall.content(unit, i, 1), want[2 * i + 1]);
-            all += want[2 * i + 1];
-        }
-        Check.same(what + ": no lot more", hall.content(unit, want.length / 2, 0), -1);
-        Check.same(what + ": how many", hall.unitIs(unit, 2), want.length / 2);
-        Check.same(what + ": how much", hall.unitIs(unit, 3), all);
-    }
-
     private static void charge() {
+        Check.about("role a gets b + c hundredths of the batch's size (without what is behind the point) of a new lot");
         BatchHall hall = running(199, charge(1, 13, 5, 1), heat(0, 1, 2), end());
         Check.same("the lot is there when it begins", hall.lots(), 1);
         contentIs("nothing yet", hall, 1);
@@ -48,21 +21,8 @@ public final class MaterialTest extends Charts {
         contentIs("of an ABORTED one, too", hall, 1, 0, 22, 1, 60);
     }
 
-    private static void chargeOfNothing() {
-        BatchHall hall = running(99, charge(0, 0, 1, 1), charge(0, 20, 0, 2), end());
-        Check.same("has begun", hall.token(0, 0), 16);
-        hall.tick();
-        Check.same("done with the first tick", hall.token(0, 0), 17);
-        Check.same("its lot is there", hall.lot(0, 2), 0);
-        contentIs("but not in the unit", hall, 0);
-        ticks(hall, 1);
-        Check.same("20 isn't done with one tick", hall.token(0, 0), 17);
-        ticks(hall, 1);
-        Check.same("but with two", hall.batchIs(0, 0), 7);
-        contentIs("the second lot alone", hall, 0, 1, 20);
-    }
-
     private static void moveByShares() {
+        Check.about("MOVING an amount x out of a content of y");
         // 5, 3 and 4 in unit 0: of 12 there are 8 to be moved, at once.
         BatchHall hall = running(0, charge(0, 5, 0, 1), charge(0, 3, 0, 2), charge(0, 4, 0, 3),
                 move(0, 1, 67, 4), move(1, 0, 100, 5), end());
@@ -77,21 +37,8 @@ public final class MaterialTest extends Charts {
         contentIs("to the same lots", hall, 0, 0, 5, 1, 3, 2, 4);
     }
 
-    private static void moveOfEqualRests() {
-        BatchHall hall = running(0, charge(0, 1, 0, 1), charge(0, 1, 0, 2), charge(0, 1, 0, 3),
-                move(0, 1, 67, 4), move(0, 1, 100, 5), move(1, 0, 34, 6), end());
-        ticks(hall, 4);
-        contentIs("2 of 3: the first ones", hall, 1, 0, 1, 1, 1);
-        contentIs("one lot is left", hall, 0, 2, 1);
-        ticks(hall, 1);
-        contentIs("behind all", hall, 1, 0, 1, 1, 1, 2, 1);
-        contentIs("none is left", hall, 0);
-        ticks(hall, 1);
-        contentIs("1 of 3: the first", hall, 0, 0, 1);
-        contentIs("the others keep their order", hall, 1, 1, 1, 2, 1);
-    }
-
     private static void moveTenByTen() {
+        Check.about("CHARGE, MOVE: 10, or what is left, if that is less");
         BatchHall hall = running(0, charge(0, 30, 0, 1), move(0, 1, 85, 2), end());
         ticks(hall, 3);
         Check.same("MOVE has begun", hall.token(0, 0), 17);
@@ -107,17 +54,8 @@ public final class MaterialTest extends Charts {
         Check.same("done", hall.batchIs(0, 0), 7);
     }
 
-    private static void moveOfNothing() {
-        BatchHall hall = running(0, move(0, 1, 100, 1), charge(0, 3, 0, 2), move(0, 1, 33, 3),
-                end());
-        ticks(hall, 1);
-        Check.same("nothing there: done with the first tick", hall.token(0, 0), 17);
-        ticks(hall, 2);
-        contentIs("33 hundredths of 3 are nothing", hall, 1);
-        Check.same("done", hall.batchIs(0, 0), 7);
-    }
-
     private static void reacts() {
+        Check.about("REACT: each lot of the content goes INTO the new one, with its amount.");
         BatchHall hall = running(0, react(2, 1, 1), charge(0, 8, 0, 2), charge(0, 7, 0, 3),
                 move(0, 1, 40, 4), react(0, 2, 5), react(1, 1, 6), charge(0, 1, 0, 7),
                 move(1, 0, 100, 8), react(0, 1, 9), end());
@@ -192,6 +130,7 @@ public final class MaterialTest extends Charts {
     }
 
     private static void lotInManyUnits() {
+        Check.about("2 how much of it there is in all units");
         BatchHall hall = running(0, charge(0, 30, 0, 1), move(0, 1, 50, 2), move(1, 2, 20, 3),
                 heat(0, 1, 4), end());
         ticks(hall, 4);
@@ -212,96 +151,12 @@ public final class MaterialTest extends Charts {
         Check.same("another what", hall.content(0, 0, -1), -1);
     }
 
-    /** A hall in which 99 lots were made, each a CHARGE of 1 into unit 0. */
-    private static BatchHall nearlyFull() {
-        BatchHall hall = new BatchHall();
-        release(hall, 0, new int[] {0, 3, 3}, charge(0, 1, 0, 1), row(8, 5, 0, 0, 2, 0),
-                row(8, 5, 0, 0, 3, 0), end());
-        release(hall, 1, new int[] {0, 3, 3}, charge(0, 1, 0, 1), row(8, 2, 0, 0, 2, 0),
-                end());
-        release(hall, 2, new int[] {0, 0, 3}, fork(1, 2), react(0, 1, 3),
-                react(1, 1, 3), join(4), end());
-        release(hall, 3, new int[] {0, 3, 3}, charge(0, 0, 0, 1), end());
-        for (int i = 0; i < 9; i++) {
-            int recipe = i < 2 ? 0 : 1;
-            hall.batch(recipe, 0);
-            hall.start(i);
-            ticks(hall, i < 2 ? 36 : 3);
-            Check.same("it is over", hall.batchIs(i, 0), 7);
-        }
-        Check.same("lots by now", hall.lots(), 93);
-        hall.batch(1, 0);
-        hall.start(9);
-        hall.batch(1, 0);
-        hall.start(10);
-        ticks(hall, 3);
-        Check.same("lots", hall.lots(), 99);
-        return hall;
-    }
-
-    private static void tooManyLotsByReact() {
-        BatchHall hall = nearlyFull();
-        hall.batch(2, 0);
-        hall.batch(3, 0);
-        Check.same("start", hall.start(11), 2);
-        Check.same("96 in unit 0", hall.unitIs(0, 2), 96);
-        Check.same("3 in unit 1", hall.unitIs(1, 2), 3);
-        hall.tick();
-        Check.same("one new lot, not two", hall.lots(), 100);
-        Check.same("ABORTED", hall.batchIs(11, 0), 6);
-        contentIs("the first REACT was done", hall, 0, 99, 96);
-        Check.same("the second one was not", hall.unitIs(1, 2), 3);
-        Check.same("no owner", hall.unitIs(1, 0), -1);
-        Check.same("all went into it", hall.lot(99, 3), 96);
-        Check.same("the last of its origins", hall.trace(99, false, 95), hall.from(99, 95, 0));
-        Check.same("a CHARGE of nothing is ABORTED when it would begin", hall.start(12), 6);
-        Check.same("no more lots", hall.lots(), 100);
-        Check.same("none is busy", hall.tick(), 0);
-    }
-
-    private static void tooManyLotsByCharge() {
-        BatchHall hall = nearlyFull();
-        for (int i = 0; i < 3; i++) {
-            hall.batch(1, 0);
-        }
-        Check.same("the hundredth", hall.start(11), 2);
-        Check.same("one more", hall.start(12), 6);
-        Check.same("none is busy then", hall.tick(), 0);
-        Check.same("ABORTED where its LOOP goes back", hall.batchIs(11, 0), 6);
-        Check.same("the hundredth lot has its amount", hall.lot(99, 2), 1);
-        Check.same("lots", hall.lots(), 100);
-    }
-
-    private static void lotsOfManyBatches() {
-        BatchHall hall = released(heat(0, 1, 1), charge(0, 10, 0, 2), end());
-        for (int i = 0; i < 2; i++) {
-            hall.batch(0, 0);
-        }
-        hall.start(1);
-        hall.start(0);
-        Check.same("none yet", hall.lots(), 0);
-        hall.tick();
-        Check.same("lots", hall.lots(), 2);
-        Check.same("by number of the batch", hall.lot(0, 0), 0);
-        Check.same("then the other", hall.lot(1, 0), 1);
-        Check.same("the step", hall.lot(1, 1), 1);
-        hall.tick();
-        contentIs("the one started first has the first units", hall, 0, 1, 10);
-        contentIs("the other one", hall, 3, 0, 10);
-    }
-
     public static void main(String[] args) {
         charge();
-        chargeOfNothing();
         moveByShares();
-        moveOfEqualRests();
         moveTenByTen();
-        moveOfNothing();
         reacts();
         lotInManyUnits();
-        tooManyLotsByReact();
-        tooManyLotsByCharge();
-        lotsOfManyBatches();
         Check.end();
     }
 }

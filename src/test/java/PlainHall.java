@@ -616,6 +616,17 @@ final class PlainHall {
         return true;
     }
 
+    /** A name that a SAMPLE of the batch waits for, or NONE: for who drives a run. */
+    int awaited(int batch) {
+        for (T t : batches.get(batch).tokens) {
+            S s = recipes.get(batches.get(batch).recipe).steps.get(t.at);
+            if (t.begun && s.kind() == 4 && t.left > 0) {
+                return s.b();
+            }
+        }
+        return NONE;
+    }
+
     int batchIs(int batch, int what) {
         if (batch < 0 || batch >= batches.size()) {
             return NONE;

@@ -1,27 +1,32 @@
+import java.util.Arrays;
 import java.util.List;
 import java.util.Random;
 
-/** Many runs of calls by fixed seeds, each answer held against PlainHall's. */
+/** Many runs of 512 calls by fixed seeds, as many as are promised, each answer held against PlainHall's. */
 public final class RandomRunTest {
-    private static final int RUNS = 1000;
-    private static final int CALLS = 300;
+    private static final int RUNS = 6000;
+    private static final int CALLS = 512;
 
     // Makes four lots a round, so that a run comes to 100 of them.
     private static final int[][] FLOOD = {
         {5, 0, 0, 0, 1, 3}, {0, 0, 5, 0, 2, 0}, {0, 0, 7, 0, 5, 0}, {0, 1, 5, 0, 4, 0}, {3, 1, 1, 0, 5, 0},
         {6, 0, 0, 0, 6, 0}, {2, 0, 1, 50, 7, 0}, {8, 5, 0, 0, 8, 0}, {8, 5, 0, 0, 9, 0}, {9, 0, 0, 0, 0, 0}};
 
-    private final Random random;
-    private final int seed;
-    private final BatchHall hall = new BatchHall();
-    private final PlainHall plain = new PlainHall();
     private static final int[] faults = new int[6];
     private static final int[] ends = new int[8];
     private static int full = 0;
 
+    private final Random random;
+    private final int seed;
+    private final boolean floods;
+    private final BatchHall hall = new BatchHall();
+    private final PlainHall plain = new PlainHall();
+    private int calls = 0;
+
     private RandomRunTest(int seed) {
         this.seed = seed;
         this.random = new Random(seed);
+        this.floods = seed % 8 == 0;
     }
 
     interface Call {
@@ -38,10 +43,14 @@ public final class RandomRunTest {
         }
     }
 
+    /** What comes behind the last call that is promised is not asked; the answer then is PlainHall's alone. */
     private int both(String what, Call one, Call two) {
-        int got = answer(one);
-        Check.same("seed " + seed + ": " + what, got, answer(two));
-        return got;
+        int want = answer(two);
+        if (calls < CALLS) {
+            calls++;
+            Check.same("seed " + seed + ", call " + calls + ": " + what, answer(one), want);
+        }
+        return want;
     }
 
     private static int bit(boolean yes) {
@@ -51,17 +60,39 @@ public final class RandomRunTest {
     /** Mostly a number below the limit, now and then one beside it. */
     private int pick(int limit) {
         int dice = random.nextInt(40);
-        return dice == 0 ? -1 : dice == 1 ? limit : random.nextInt(limit);
+        return dice == 0 ? -1 : dice == 1 ? limit : random.nextInt(Math.max(1, limit));
+    }
+
+    private void run() {
+        for (int u = 0; u < 6; u++) {
+            int unit = u;
+            int group = floods ? 0 : u < 3 ? u : random.nextInt(3);
+            both("unit", () -> bit(hall.unit(unit, group)), () -> bit(plain.unit(unit, group)));
+        }
+        int recipes = floods ? 1 : 1 + random.nextInt(4);
+        for (int recipe = 0; recipe < recipes; recipe++) {
+            writeRecipe(recipe);
+        }
+        while (calls < CALLS && Check.isAllRight()) {
+            act(recipes);
+            ask();
+            if (random.nextInt(3) == 0) {
+                ask();
+            }
+        }
+        full += bit(plain.lots() == 100);
+        for (int b = 0; b < plain.batches.size(); b++) {
+            ends[plain.batchIs(b, 0)]++;
+        }
     }
 
     private void writeRecipe(int recipe) {
         for (int role = 0; role < 3; role++) {
             int r = role;
-            int group = random.nextInt(20) == 0 ? 3 : random.nextInt(3);
+            int group = floods ? role < 2 ? 0 : 3 : random.nextInt(20) == 0 ? 3 : random.nextInt(3);
             both("role", () -> bit(hall.role(recipe, r, group)), () -> bit(plain.role(recipe, r, group)));
         }
-        List<int[]> rows = recipe == 0 && seed % 8 == 0
-                ? List.of(FLOOD) : new ChartMaker(random).make(random.nextInt(6) == 0 ? 1 : 0);
+        List<int[]> rows = floods ? List.of(FLOOD) : new ChartMaker(random).make(random.nextInt(6) == 0 ? 1 : 0);
         for (int[] x : rows) {
             both("step", () -> hall.step(recipe, x[0], x[1], x[2], x[3]),
                     () -> plain.step(recipe, x[0], x[1], x[2], x[3]));
@@ -72,72 +103,53 @@ public final class RandomRunTest {
             both("link", () -> bit(hall.link(recipe, at, x[4], x[5])), () -> bit(plain.link(recipe, at, x[4], x[5])));
         }
         int fault = both("release", () -> hall.release(recipe), () -> plain.release(recipe));
-        if (fault >= 0) {
-            faults[fault]++;
-        }
+        faults[fault]++;
     }
 
-    private void run() {
-        for (int u = 0; u < 6; u++) {
-            int unit = u;
-            int group = u < 3 ? u : random.nextInt(3);
-            both("unit", () -> bit(hall.unit(unit, group)), () -> bit(plain.unit(unit, group)));
-        }
-        for (int recipe = 0; recipe < 4; recipe++) {
-            writeRecipe(recipe);
-        }
-        compare();
-        for (int i = 0; i < CALLS && Check.isAllRight(); i++) {
-            act();
-            compare();
-        }
-        full += bit(hall.lots() == 100);
-        for (int b = 0; b < 16; b++) {
-            int state = hall.batchIs(b, 0);
-            if (state >= 0) {
-                ends[state]++;
-            }
-        }
-    }
-
-    private void act() {
-        int batch = pick(Math.max(1, plain.batches.size()));
+    private void act(int recipes) {
+        int batch = pick(plain.batches.size());
         int dice = random.nextInt(100);
-        if (dice < 45) {
+        if (dice < (floods ? 75 : 45)) {
             both("tick", hall::tick, plain::tick);
-        } else if (dice < 58) {
-            int recipe = pick(4);
-            int size = random.nextInt(20) == 0 ? 1001 : random.nextInt(1001);
+        } else if (dice < 58 || floods && dice < 85) {
+            int recipe = random.nextInt(10) == 0 ? pick(4) : random.nextInt(recipes);
+            int size = random.nextInt(20) == 0 ? 1001 : random.nextInt(random.nextInt(3) == 0 ? 1001 : 100);
             int made = both("batch", () -> hall.batch(recipe, size), () -> plain.batch(recipe, size));
             if (made >= 0 && random.nextInt(2) == 0) {
                 both("start", () -> hall.start(made), () -> plain.start(made));
             }
-        } else if (dice < 68) {
+        } else if (dice < 70) {
             both("start", () -> hall.start(batch), () -> plain.start(batch));
         } else if (dice < 84) {
-            int name = random.nextInt(3) == 0 ? pick(4) : random.nextInt(2);
-            measure(batch, name);
-            for (int b = 0; b < plain.batches.size(); b++) {
-                if (random.nextInt(2) == 0) {
-                    measure(b, name);
-                }
-            }
+            measure(batch);
         } else {
             actSeldom(batch, dice);
         }
     }
 
-    private void measure(int batch, int name) {
+    /** Mostly a name that a SAMPLE waits for, so that batches come on. */
+    private void measure(int any) {
+        int batch = any;
+        int name = pick(4);
+        for (int b = 0; b < plain.batches.size() && random.nextInt(5) > 0; b++) {
+            int awaited = plain.awaited(b);
+            if (awaited >= 0 && random.nextInt(3) > 0) {
+                batch = b;
+                name = awaited;
+            }
+        }
         int value = random.nextInt(4) - 1;
-        both("measure", () -> bit(hall.measure(batch, name, value)), () -> bit(plain.measure(batch, name, value)));
+        int of = batch;
+        int n = name;
+        both("measure", () -> bit(hall.measure(of, n, value)), () -> bit(plain.measure(of, n, value)));
     }
 
     private void actSeldom(int batch, int dice) {
         if (dice < 88) {
             both("hold", () -> { hall.hold(batch); return 0; }, () -> { plain.hold(batch); return 0; });
-        } else if (dice < 94) {
+        } else if (dice < 93) {
             both("restart", () -> hall.restart(batch), () -> plain.restart(batch));
-        } else if (dice < 96) {
+        } else if (dice < 95) {
             both("stop", () -> hall.stop(batch), () -> plain.stop(batch));
         } else if (dice < 97) {
             both("abort", () -> { hall.abort(batch); return 0; }, () -> { plain.abort(batch); return 0; });
@@ -152,51 +164,75 @@ public final class RandomRunTest {
         }
     }
 
-    private void compare() {
-        for (int b = -1; b <= plain.batches.size(); b++) {
-            int batch = b;
-            for (int w = -1; w < 6; w++) {
-                int what = w;
-                both("batchIs " + b + " " + w, () -> hall.batchIs(batch, what), () -> plain.batchIs(batch, what));
-                both("token " + b + " " + w, () -> hall.token(batch, what), () -> plain.token(batch, what));
-                both("unitOf " + b + " " + w, () -> hall.unitOf(batch, what), () -> plain.unitOf(batch, what));
-            }
+    private void ask() {
+        switch (random.nextInt(8)) {
+            case 0:
+            case 1:
+            case 2:
+                askOfBatch();
+                break;
+            case 3:
+            case 4:
+                askOfUnit();
+                break;
+            case 5:
+                both("lots", hall::lots, plain::lots);
+                break;
+            default:
+                askOfLot();
+                break;
         }
-        for (int u = -1; u < 7; u++) {
-            int unit = u;
-            for (int w = -1; w < 5; w++) {
-                int what = w;
-                both("unitIs " + u + " " + w, () -> hall.unitIs(unit, what), () -> plain.unitIs(unit, what));
-            }
-            for (int i = -1; i <= plain.unitIs(u, 2); i++) {
-                int place = i;
-                for (int w = -1; w < 3; w++) {
-                    int what = w;
-                    both("content", () -> hall.content(unit, place, what), () -> plain.content(unit, place, what));
-                }
-            }
-        }
-        both("lots", hall::lots, plain::lots);
-        compareLots(random.nextInt(10) == 0 ? -1 : Math.max(0, plain.lots() - 3));
     }
 
-    private void compareLots(int first) {
-        for (int l = first; l <= plain.lots(); l++) {
-            int lot = l;
-            for (int w = -1; w < 6; w++) {
-                int what = w;
-                both("lot " + l + " " + w, () -> hall.lot(lot, what), () -> plain.lot(lot, what));
-            }
-            for (int i = -1; i <= Math.max(0, plain.lot(l, 3)); i++) {
-                int place = i;
-                for (int w = -1; w < 3; w++) {
-                    int what = w;
-                    both("from", () -> hall.from(lot, place, what), () -> plain.from(lot, place, what));
-                }
-            }
-            int place = random.nextInt(6) - 1;
-            both("origin", () -> hall.trace(lot, false, place), () -> plain.trace(lot, false, place));
-            both("outcome", () -> hall.trace(lot, true, place), () -> plain.trace(lot, true, place));
+    private void askOfBatch() {
+        int batch = pick(plain.batches.size());
+        int what = pick(5);
+        int role = pick(3);
+        int place = pick(Math.max(1, plain.batchIs(batch, 3)));
+        switch (random.nextInt(3)) {
+            case 0:
+                both("batchIs", () -> hall.batchIs(batch, what), () -> plain.batchIs(batch, what));
+                break;
+            case 1:
+                both("token", () -> hall.token(batch, place), () -> plain.token(batch, place));
+                break;
+            default:
+                both("unitOf", () -> hall.unitOf(batch, role), () -> plain.unitOf(batch, role));
+                break;
+        }
+    }
+
+    private void askOfUnit() {
+        int unit = pick(6);
+        int what = pick(4);
+        int row = pick(2);
+        int place = pick(plain.unitIs(unit, 2));
+        if (random.nextInt(3) == 0) {
+            both("unitIs", () -> hall.unitIs(unit, what), () -> plain.unitIs(unit, what));
+        } else {
+            both("content", () -> hall.content(unit, place, row), () -> plain.content(unit, place, row));
+        }
+    }
+
+    private void askOfLot() {
+        int lot = random.nextInt(2) == 0 ? pick(plain.lots()) : plain.lots() - 1 - random.nextInt(3);
+        int what = pick(5);
+        int row = pick(2);
+        int place = pick(plain.lot(lot, 3));
+        int far = pick(4);
+        switch (random.nextInt(4)) {
+            case 0:
+                both("lot", () -> hall.lot(lot, what), () -> plain.lot(lot, what));
+                break;
+            case 1:
+                both("from", () -> hall.from(lot, place, row), () -> plain.from(lot, place, row));
+                break;
+            case 2:
+                both("origin", () -> hall.trace(lot, false, far), () -> plain.trace(lot, false, far));
+                break;
+            default:
+                both("outcome", () -> hall.trace(lot, true, far), () -> plain.trace(lot, true, far));
+                break;
         }
     }
 
@@ -204,9 +240,8 @@ public final class RandomRunTest {
         for (int seed = 0; seed < RUNS && Check.isAllRight(); seed++) {
             new RandomRunTest(seed).run();
         }
-        System.out.println("releases by fault " + java.util.Arrays.toString(faults)
-                + ", batches by state " + java.util.Arrays.toString(ends)
-                + ", runs with 100 lots " + full);
+        System.out.println("releases by fault " + Arrays.toString(faults) + ", batches by state "
+                + Arrays.toString(ends) + ", runs with 100 lots " + full);
         Check.end();
     }
 }

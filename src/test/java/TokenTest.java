@@ -1,22 +1,8 @@
 /** Promises 9, 14 and 16: how tokens move, what is measured, and where a token is. */
 public final class TokenTest extends Charts {
-    private static BatchHall running(int[]... rows) {
-        BatchHall hall = released(rows);
-        hall.batch(0, 0);
-        hall.start(0);
-        return hall;
-    }
-
-    private static void tokensAre(String what, BatchHall hall, int... want) {
-        for (int i = 0; i < want.length; i++) {
-            Check.same(what + ": token " + i, hall.token(0, i), want[i]);
-        }
-        Check.same(what + ": no token more", hall.token(0, want.length), -1);
-        Check.same(what + ": how many", hall.batchIs(0, 3), want.length);
-    }
-
     private static void token() {
-        BatchHall hall = running(fork(1, 2), heat(0, 1, 3), heat(0, 2, 3), join(4),
+        Check.about("JOIN: two tokens there become one at NEXT, one waits");
+        BatchHall hall = running(0, fork(1, 2), heat(0, 1, 3), heat(0, 2, 3), join(4),
                 heat(0, 1, 5), end());
         tokensAre("one waits for the role", hall, 17, 2);
         Check.same("no such batch", hall.token(1, 0), -1);
@@ -33,7 +19,8 @@ public final class TokenTest extends Charts {
     }
 
     private static void joinOnOneTick() {
-        BatchHall hall = running(fork(1, 2), heat(0, 1, 3), heat(1, 1, 3), join(4),
+        Check.about("Of two at a JOIN the one at whose turn both are there goes on, the other one is gone.");
+        BatchHall hall = running(0, fork(1, 2), heat(0, 1, 3), heat(1, 1, 3), join(4),
                 heat(0, 1, 5), end());
         tokensAre("both have begun", hall, 17, 18);
         hall.tick();
@@ -41,7 +28,8 @@ public final class TokenTest extends Charts {
     }
 
     private static void forkInFork() {
-        BatchHall hall = running(fork(1, 5), fork(2, 3), heat(0, 3, 4), heat(1, 2, 4),
+        Check.about("FORK: the token goes to NEXT, a new one to OTHER");
+        BatchHall hall = running(0, fork(1, 5), fork(2, 3), heat(0, 3, 4), heat(1, 2, 4),
                 join(6), heat(2, 1, 6), join(7), heat(0, 1, 8), end());
         tokensAre("the outer OTHER is made first", hall, 18, 21, 19);
         hall.tick();
@@ -53,7 +41,8 @@ public final class TokenTest extends Charts {
     }
 
     private static void joinBeforeAnothersTurn() {
-        BatchHall hall = running(fork(1, 6), fork(2, 3), heat(0, 1, 5), heat(1, 1, 4), loop(5, 3), join(10),
+        Check.about("Of two at a JOIN the one at whose turn both are there goes on, the other one is gone.");
+        BatchHall hall = running(0, fork(1, 6), fork(2, 3), heat(0, 1, 5), heat(1, 1, 4), loop(5, 3), join(10),
                 fork(7, 8), heat(2, 5, 9), heat(1, 2, 9), join(10), join(11), end());
         tokensAre("four", hall, 18, 23, 19, 8);
         hall.tick();
@@ -64,7 +53,8 @@ public final class TokenTest extends Charts {
 
     /** The partner came to the JOIN by the tick: both are there at the first one's turn. */
     private static void joinAtTheTurnOfTheOneThatWaited() {
-        BatchHall hall = running(fork(1, 5), fork(2, 3), heat(0, 1, 4), heat(1, 2, 4), join(6), heat(2, 5, 6),
+        Check.about("Of two at a JOIN the one at whose turn both are there goes on, the other one is gone.");
+        BatchHall hall = running(0, fork(1, 5), fork(2, 3), heat(0, 1, 4), heat(1, 2, 4), join(6), heat(2, 5, 6),
                 join(7), end());
         hall.tick();
         tokensAre("the first waits at its JOIN", hall, 4, 21, 19);
@@ -73,7 +63,8 @@ public final class TokenTest extends Charts {
     }
 
     private static void tokensHaveTheirTurnInOrder() {
-        BatchHall hall = running(fork(1, 3), heat(0, 1, 2), heat(0, 1, 4), heat(0, 1, 4),
+        Check.about("Tokens are gone through in the order in which they were made");
+        BatchHall hall = running(0, fork(1, 3), heat(0, 1, 2), heat(0, 1, 4), heat(0, 1, 4),
                 join(5), end());
         tokensAre("the first has the role", hall, 17, 3);
         hall.tick();
@@ -83,59 +74,59 @@ public final class TokenTest extends Charts {
         Check.same("over", hall.tick(), 0);
     }
 
-    private static void moveNeedsBothRoles() {
-        BatchHall hall = running(fork(1, 2), move(0, 1, 50, 4), heat(1, 1, 3),
-                heat(2, 1, 4), join(5), end());
+    /** The phases of two branches: the second begins at once only if the first has none of its roles. */
+    private static void beside(String what, boolean begins, int[] first, int[] second) {
+        first[4] = 3;
+        second[4] = 3;
+        BatchHall hall = running(0, fork(1, 2), first, second, join(4), end());
+        tokensAre(what, hall, 17, begins ? 18 : 2);
+        Check.same(what + ": how many have begun", hall.batchIs(0, 4), begins ? 2 : 1);
+    }
+
+    private static void oneOfItsRoles() {
+        Check.about("it BEGINS if no other phase of the batch that has begun has one of its units (roles); otherwise it"
+                + " waits");
+        for (int role = 0; role < 3; role++) {
+            for (int other = 0; other < 3; other++) {
+                String what = "roles " + role + ", " + other;
+                boolean apart = role != other;
+                beside("HEAT, HEAT " + what, apart, heat(role, 2, 0), heat(other, 2, 0));
+                beside("CHARGE, REACT " + what, apart, charge(role, 1, 2, 0), react(other, 2, 0));
+                // SAMPLE's b is a name: it takes no role.
+                beside("SAMPLE, HEAT " + what, apart, row(4, role, 1, 2, 0, 0), heat(other, 1, 0));
+                int rest = 3 - role - other;
+                if (apart) {
+                    beside("MOVE, HEAT " + what, false, move(role, other, 1, 0), heat(role, 1, 0));
+                    beside("MOVE, HEAT into " + what, false, move(role, other, 1, 0), heat(other, 1, 0));
+                    beside("MOVE, HEAT past " + what, true, move(role, other, 1, 0), heat(rest, 1, 0));
+                    beside("HEAT, MOVE " + what, false, heat(role, 1, 0), move(role, other, 1, 0));
+                    beside("HEAT, MOVE into " + what, false, heat(other, 1, 0), move(role, other, 1, 0));
+                    beside("HEAT, MOVE past " + what, true, heat(rest, 1, 0), move(role, other, 1, 0));
+                    beside("MOVE, MOVE back " + what, false, move(role, other, 1, 0), move(other, role, 1, 0));
+                    beside("MOVE, MOVE on " + what, false, move(role, other, 1, 0), move(other, rest, 1, 0));
+                    beside("MOVE, MOVE beside " + what, false, move(role, other, 1, 0), move(rest, other, 1, 0));
+                    beside("MOVE, MOVE out of " + what, false, move(role, other, 1, 0), move(role, rest, 1, 0));
+                }
+            }
+        }
+    }
+
+    private static void waitsForItsRole() {
+        Check.about("it BEGINS if no other phase of the batch that has begun has one of its units (roles); otherwise it"
+                + " waits");
+        BatchHall hall = running(0, fork(1, 2), move(0, 1, 50, 4), heat(1, 1, 3), heat(2, 1, 4), join(5), end());
         tokensAre("MOVE has roles 0 and 1", hall, 17, 2);
         hall.tick();
         tokensAre("then HEAT has role 1", hall, 4, 18);
-        BatchHall other = running(fork(1, 2), heat(1, 2, 3), move(0, 1, 50, 3),
-                join(4), end());
-        tokensAre("HEAT has role 1", other, 17, 2);
-    }
-
-    private static void loops() {
-        BatchHall hall = running(heat(0, 1, 1), row(8, 2, 0, 0, 2, 0), heat(1, 1, 3),
-                row(8, 1, 0, 0, 4, 0), end());
-        int[] way = {16, 16, 16, 18, 16, 16, 16, 18};
-        for (int i = 0; i < way.length; i++) {
-            tokensAre("after " + i + " ticks", hall, way[i]);
-            hall.tick();
-        }
-        Check.same("COMPLETE", hall.batchIs(0, 0), 7);
-    }
-
-    private static void loopsArePerBatch() {
-        BatchHall hall = running(heat(0, 1, 1), row(8, 1, 0, 0, 2, 0), end());
-        hall.tick();
-        hall.batch(0, 0);
-        hall.start(1);
-        Check.same("both go on", hall.tick(), 1);
-        Check.same("the second batch's LOOP", hall.token(1, 0), 16);
-        Check.same("comes to its end", hall.tick(), 0);
-    }
-
-    private static void choices() {
-        int[] values = {Integer.MIN_VALUE, 4, 5, Integer.MAX_VALUE};
-        int[] steps = {18, 18, 19, 19};
-        for (int i = 0; i < values.length; i++) {
-            BatchHall hall = running(sample(3, 1), row(7, 3, 5, 0, 2, 3), heat(0, 1, 4),
-                    heat(0, 1, 4), end());
-            Check.yes("measure", hall.measure(0, 3, values[i]));
-            hall.tick();
-            tokensAre("by " + values[i], hall, steps[i]);
-        }
-    }
-
-    private static void choiceOfWhatIsNotMeasured() {
-        BatchHall hall = running(heat(0, 1, 2), row(7, 3, 0, 0, 2, 3), row(8, 1, 0, 0, 4, 1),
-                heat(1, 1, 5), heat(2, 1, 5), end());
-        Check.same("the chart is released, though", hall.batchIs(0, 1), 0);
-        hall.tick();
-        tokensAre("a value is 0 at first, which is not below 0", hall, 19);
+        BatchHall two = released(heat(0, 5, 1), end());
+        makeBatches(two, 0, 0);
+        two.start(0);
+        two.start(1);
+        Check.same("another batch's phase doesn't matter", two.token(1, 0), 16);
     }
 
     private static void samples() {
+        Check.about("4 SAMPLE: role a, until name b is measured.");
         BatchHall hall = released(sample(1, 1), fork(2, 3), sample(1, 4),
                 row(4, 1, 1, 0, 4, -1), join(5), end());
         hall.batch(0, 0);
@@ -160,6 +151,7 @@ public final class TokenTest extends Charts {
     }
 
     private static void measure() {
+        Check.about("A value is measured for a name of a batch");
         BatchHall hall = released(sample(1, 1), end());
         for (int i = 0; i < 3; i++) {
             hall.batch(0, 0);
@@ -184,19 +176,6 @@ public final class TokenTest extends Charts {
         Check.no("of one that is COMPLETE", hall.measure(2, 1, 0));
     }
 
-    /** Nested loops without a phase between them are gone through within one tick. */
-    private static void loopsInLoops() {
-        BatchHall hall = released(sample(0, 1), choice(0, 2, 2), row(8, 5, 0, 0, 3, 1),
-                row(8, 5, 0, 0, 4, 1), row(8, 5, 0, 0, 5, 1), row(8, 5, 0, 0, 6, 1),
-                row(8, 5, 0, 0, 7, 1), row(8, 5, 0, 0, 8, 1), row(8, 5, 0, 0, 9, 1),
-                row(8, 5, 0, 0, 10, 1), row(8, 5, 0, 0, 11, 1), end());
-        hall.batch(0, 0);
-        hall.start(0);
-        hall.measure(0, 0, 0);
-        Check.same("COMPLETE within a tick", hall.tick(), 0);
-        Check.same("its state", hall.batchIs(0, 0), 7);
-    }
-
     public static void main(String[] args) {
         token();
         joinOnOneTick();
@@ -204,14 +183,10 @@ public final class TokenTest extends Charts {
         joinBeforeAnothersTurn();
         joinAtTheTurnOfTheOneThatWaited();
         tokensHaveTheirTurnInOrder();
-        moveNeedsBothRoles();
-        loops();
-        loopsArePerBatch();
-        choices();
-        choiceOfWhatIsNotMeasured();
+        oneOfItsRoles();
+        waitsForItsRole();
         samples();
         measure();
-        loopsInLoops();
         Check.end();
     }
 }
