@@ -96,6 +96,7 @@ public final class ClaimTest extends Charts {
         Check.same("its unit", hall.unitOf(0, 0), 5);
         Check.same("the next one", hall.start(1), WAITING);
         Check.same("no tokens", hall.batchIs(1, 3), 0);
+        Check.same("no token", hall.token(1, 0), -1);
         Check.same("no unit", hall.unitOf(1, 0), -1);
         hall.abort(0);
         Check.same("then it has one", hall.token(1, 0), 16);

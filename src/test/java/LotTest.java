@@ -238,9 +238,25 @@ public final class LotTest extends Charts {
         Check.about("MOVING an amount x out of a content of y");
         // 10 of 15: 70/15 is 4 rest 10, 80/15 is 5 rest 5; then 2 of 5: 4/5 is 0 rest 4, 6/5 is 1 rest 1.
         moves(new int[] {7, 8}, 80, 6, 6);
+        // 10 of 14: 20/14 is 1 rest 6, 120/14 is 8 rest 8; then 1 of 4: 1/4 is 0 rest 1, 3/4 is 0 rest 3.
+        moves(new int[] {2, 12}, 80, 1, 10);
+        moves(new int[] {3, 15}, 80, 3, 11);
+        moves(new int[] {1, 3, 13}, 70, 0, 2, 9);
         // 10 of 33 three times and 3 at last.
         moves(new int[] {11, 11, 11}, 100, 11, 11, 11);
         moves(new int[] {11, 11, 11}, 31, 4, 3, 3);
+    }
+
+    /** Lots 0 to 2 have left the unit before: what there was of them is nothing to later shares. */
+    private static void whatHasLeft() {
+        Check.about("MOVING an amount x out of a content of y");
+        BatchHall hall = running(0, charge(0, 1, 0, 1), charge(0, 1, 0, 2), charge(0, 9, 0, 3), move(0, 1, 100, 4),
+                charge(0, 1, 0, 5), charge(0, 1, 0, 6), move(0, 2, 50, 7), end());
+        ticks(hall, 8);
+        stateIs(hall, 0, COMPLETE);
+        contentIs("left before", hall, 1, 0, 1, 1, 1, 2, 9);
+        contentIs("came", hall, 2, 3, 1);
+        contentIs("is left", hall, 0, 4, 1);
     }
 
     private static void chargeMakesItsLot() {
@@ -345,6 +361,13 @@ public final class LotTest extends Charts {
         stateIs(hall, 4, COMPLETE);
         Check.same("lots", hall.lots(), 100);
         Check.same("of units 0 and 1", hall.lot(98, 3), 48);
+        Check.same("the first of them", hall.from(98, 0, 0), 1);
+        Check.same("with what amount", hall.from(98, 47, 1), 1);
+        Check.same("none more", hall.from(98, 48, 0), -1);
+        Check.same("into the last one went one", hall.from(99, 0, 0), 98);
+        Check.same("with all that there was", hall.from(99, 0, 1), 48);
+        Check.same("none more", hall.from(99, 1, 0), -1);
+        Check.same("no such lot", hall.from(100, 0, 0), -1);
         Check.same("the last one's first origin", hall.trace(99, false, 0), 0);
         Check.same("the last one's last origin", hall.trace(99, false, 48), 98);
         Check.same("none more", hall.trace(99, false, 49), -1);
@@ -370,6 +393,7 @@ public final class LotTest extends Charts {
         eachLotOnce();
         shares();
         sharesAnewEachTick();
+        whatHasLeft();
         chargeMakesItsLot();
         numberedByBatch();
         numberedAsTheyAreMade();

@@ -76,6 +76,27 @@ public final class NumberTest extends Charts {
         }
     }
 
+    private static void lastUnit() {
+        Check.about("UNITS 0 .. 5");
+        BatchHall hall = new BatchHall();
+        for (int unit = 0; unit < 5; unit++) {
+            hall.unit(unit, 1);
+        }
+        release(hall, 0, ONE_ROLE, charge(0, 5, 0, 1), heat(0, 20, 2), end());
+        hall.batch(0, 0);
+        hall.start(0);
+        hall.tick();
+        int[] want = {0, 0, 1, 5};
+        for (int what = 0; what < 4; what++) {
+            Check.same("unitIs(5, " + what + ")", hall.unitIs(5, what), want[what]);
+            Check.same("unitIs(6, " + what + ")", hall.unitIs(6, what), -1);
+        }
+        contentIs("the last unit", hall, 5, 0, 5);
+        Check.same("unitOf", hall.unitOf(0, 0), 5);
+        Check.same("its lot", hall.lot(0, 2), 5);
+        Check.no("it has an owner", hall.unit(5, 1));
+    }
+
     private static void owners() {
         Check.about("an OWNER (a batch, or NONE)");
         BatchHall hall = new BatchHall();
@@ -400,6 +421,7 @@ public final class NumberTest extends Charts {
         units();
         unitsAsked();
         contentsAsked();
+        lastUnit();
         owners();
         recipes();
         roles();

@@ -250,18 +250,25 @@ public final class ReleaseTest extends Charts {
                 join(6), choice(1, 7, 7), end());
     }
 
+    private static BatchHall unitsForRoles(int group, int roles, int there) {
+        BatchHall hall = write(0, end());
+        for (int role = 0; role < 3; role++) {
+            hall.role(0, role, role < roles ? group : 3);
+        }
+        for (int unit = 0; unit < 6; unit++) {
+            hall.unit(unit, unit >= 6 - there ? group : (group + 1) % 3);
+        }
+        return hall;
+    }
+
     private static void enoughUnits() {
         Check.about("5 for the classes of the roles there aren't enough different units");
-        for (int roles = 1; roles <= 3; roles++) {
-            for (int there = 0; there <= 6; there++) {
-                BatchHall hall = write(0, end());
-                for (int role = 0; role < 3; role++) {
-                    hall.role(0, role, role < roles ? 1 : 3);
+        for (int group = 0; group < 3; group++) {
+            for (int roles = 1; roles <= 3; roles++) {
+                for (int there = 0; there <= 6; there++) {
+                    Check.same(there + " units for " + roles + " roles of class " + group,
+                            unitsForRoles(group, roles, there).release(0), there < roles ? 5 : 0);
                 }
-                for (int unit = 0; unit < there; unit++) {
-                    hall.unit(5 - unit, 1);
-                }
-                Check.same(there + " units for " + roles + " roles", hall.release(0), there < roles ? 5 : 0);
             }
         }
         BatchHall hall = write(0, end());

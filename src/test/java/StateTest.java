@@ -43,6 +43,28 @@ public final class StateTest extends Charts {
         }
     }
 
+    private static void whatEachHas() {
+        Check.about("It owns them, is RUNNING, and has a token at step 0.");
+        BatchHall hall = eightStates();
+        for (int state = 0; state < 8; state++) {
+            int batch = BATCH_IN[state];
+            boolean busy = state >= RUNNING && state <= STOPPING;
+            Check.same("recipe in " + state, hall.batchIs(batch, 1), 0);
+            Check.same("size in " + state, hall.batchIs(batch, 2), 10 * batch);
+            Check.same("tokens in " + state, hall.batchIs(batch, 3), busy ? 1 : 0);
+            Check.same("phases in " + state, hall.batchIs(batch, 4), busy ? 1 : 0);
+            Check.same("token in " + state, hall.token(batch, 0), busy ? 16 : -1);
+            Check.same("unit in " + state, hall.unitOf(batch, 0), busy ? batch - 3 : -1);
+            Check.same("no unit for role 1 in " + state, hall.unitOf(batch, 1), -1);
+        }
+        Check.about("how many batches are RUNNING, HELD or STOPPING behind it");
+        Check.same("3 is STOPPED, and 6 has its unit", hall.tick(), 3);
+        int[] then = {COMPLETE, STOPPED, ABORTED, STOPPED, HELD, RUNNING, RUNNING, MADE};
+        for (int batch = 0; batch < 8; batch++) {
+            stateIs(hall, batch, then[batch]);
+        }
+    }
+
     private static void start() {
         Check.about("A batch that is MADE is WAITING, or RUNNING at once: its state. .. IllegalStateException: it isn't"
                 + " MADE.");
@@ -258,6 +280,7 @@ public final class StateTest extends Charts {
 
     public static void main(String[] args) {
         theEightStates();
+        whatEachHas();
         start();
         hold();
         restart();

@@ -40,6 +40,19 @@ public final class TokenTest extends Charts {
         tokensAre("both are gone", hall, 23);
     }
 
+    /** The second token goes on from the JOIN, and comes to the FORK again: the third is behind it. */
+    private static void forkAgain() {
+        Check.about("FORK: the token goes to NEXT, a new one to OTHER");
+        BatchHall hall = running(0, fork(1, 2), heat(0, 1, 4), heat(1, 1, 3), loop(4, 2), join(5), loop(3, 6, 0), end());
+        for (int round = 0; round < 4; round++) {
+            tokensAre("round " + round, hall, 17, 18);
+            hall.tick();
+            tokensAre("round " + round + ", one waits", hall, 4, 18);
+            Check.same("round " + round, hall.tick(), round < 3 ? 1 : 0);
+        }
+        stateIs(hall, 0, COMPLETE);
+    }
+
     private static void joinBeforeAnothersTurn() {
         Check.about("Of two at a JOIN the one at whose turn both are there goes on, the other one is gone.");
         BatchHall hall = running(0, fork(1, 6), fork(2, 3), heat(0, 1, 5), heat(1, 1, 4), loop(5, 3), join(10),
@@ -180,6 +193,7 @@ public final class TokenTest extends Charts {
         token();
         joinOnOneTick();
         forkInFork();
+        forkAgain();
         joinBeforeAnothersTurn();
         joinAtTheTurnOfTheOneThatWaited();
         tokensHaveTheirTurnInOrder();
