@@ -167,7 +167,8 @@ public final class LotTest extends Charts {
 
     private static void eachLotOnce() {
         Check.about("A content has each lot once.");
-        BatchHall hall = running(0, charge(0, 25, 0, 1), move(0, 1, 100, 2), move(1, 0, 40, 3), move(1, 0, 100, 4), end());
+        BatchHall hall = running(0, charge(0, 25, 0, 1), move(0, 1, 100, 2), move(1, 0, 40, 3), move(1, 0, 100, 4),
+                end());
         ticks(hall, 3);
         contentIs("CHARGE adds to one lot", hall, 0, 0, 25);
         ticks(hall, 3);

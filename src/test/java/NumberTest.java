@@ -374,7 +374,8 @@ public final class NumberTest extends Charts {
     }
 
     private static void partsAsked() {
-        Check.about("The i-th lot that went into one (what 0), with what amount (1), in the order of the content; NONE.");
+        Check.about("The i-th lot that went into one (what 0), with what amount (1), in the order of the content;"
+                + " NONE.");
         BatchHall hall = running(0, charge(1, 5, 0, 1), charge(1, 7, 0, 2), react(1, 1, 3), heat(0, 20, 4), end());
         ticks(hall, 3);
         int[][] want = {{0, 5}, {1, 7}};

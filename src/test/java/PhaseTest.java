@@ -309,7 +309,8 @@ public final class PhaseTest extends Charts {
 
     private static void holdRests() {
         Check.about("A RUNNING batch is HELD (its phases rest; what is measured counts).");
-        BatchHall hall = running(0, fork(1, 2), charge(0, 25, 0, 4), heat(1, 3, 3), row(4, 1, 0, 0, 4, 0), join(5), end());
+        BatchHall hall = running(0, fork(1, 2), charge(0, 25, 0, 4), heat(1, 3, 3), row(4, 1, 0, 0, 4, 0), join(5),
+                end());
         hall.tick();
         hall.hold(0);
         for (int i = 0; i < 5; i++) {

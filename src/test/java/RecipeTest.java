@@ -79,7 +79,8 @@ public final class RecipeTest extends Charts {
     }
 
     private static void link() {
-        Check.about("A step's NEXT and OTHER (any numbers); false if there is no such recipe or step, or it is released.");
+        Check.about("A step's NEXT and OTHER (any numbers); false if there is no such recipe or step, or it is"
+                + " released.");
         BatchHall hall = new BatchHall();
         for (int step : outside(0)) {
             Check.no("no steps at all", hall.link(0, step, 0, 0));

@@ -99,8 +99,10 @@ public final class ReleaseTest extends Charts {
         due("one step for both", 3, fork(1, 1), heat(2), join(3), end());
         due("one branch runs into the other", 3, fork(1, 2), heat(2), heat(3), join(4), end());
         due("a FORK in a branch", 0, fork(1, 5), fork(2, 3), heat(4), heat(4), join(6), heat(6), join(7), end());
-        due("a FORK in the other branch", 0, fork(1, 2), heat(6), fork(3, 4), heat(5), heat(5), join(6), join(7), end());
-        due("FORKs in both", 0, fork(1, 2), fork(3, 4), fork(5, 6), heat(7), heat(7), heat(8), heat(8), join(9), join(9),
+        due("a FORK in the other branch", 0, fork(1, 2), heat(6), fork(3, 4), heat(5), heat(5), join(6), join(7),
+                end());
+        due("FORKs in both", 0, fork(1, 2), fork(3, 4), fork(5, 6), heat(7), heat(7), heat(8), heat(8), join(9),
+                join(9),
                 join(10), end());
         due("two one behind the other", 0, fork(1, 2), heat(3), heat(3), join(4), fork(5, 6), heat(7), heat(7), join(8),
                 end());
@@ -116,7 +118,8 @@ public final class ReleaseTest extends Charts {
         due("a JOIN for three", 3, fork(1, 4), fork(2, 3), heat(5), heat(5), heat(5), join(6), end());
         due("of an inner and of an outer one", 3, fork(1, 4), fork(2, 3), heat(5), heat(6), heat(5), join(6), join(7),
                 end());
-        due("of two FORKs", 3, sample(0, 1), choice(0, 2, 5), fork(3, 4), heat(8), heat(8), fork(6, 7), heat(8), heat(8),
+        due("of two FORKs", 3, sample(0, 1), choice(0, 2, 5), fork(3, 4), heat(8), heat(8), fork(6, 7), heat(8),
+                heat(8),
                 join(9), end());
         due("one of each of two FORKs", 3, fork(1, 2), fork(3, 4), fork(5, 6), heat(7), heat(8), heat(7), heat(8),
                 join(9), join(9), join(10), end());
@@ -134,7 +137,8 @@ public final class ReleaseTest extends Charts {
         due("both are", 3, fork(1, 1), join(2), end());
         due("one step each", 0, fork(1, 2), heat(3), heat(3), join(4), end());
         due("a CHOICE is a step, too", 0, sample(0, 1), fork(2, 3), choice(0, 4, 4), choice(0, 4, 4), join(5), end());
-        due("an inner FORK with its JOIN", 0, fork(1, 2), heat(6), fork(3, 4), heat(5), heat(5), join(6), join(7), end());
+        due("an inner FORK with its JOIN", 0, fork(1, 2), heat(6), fork(3, 4), heat(5), heat(5), join(6), join(7),
+                end());
         due("an inner one's branch has none", 3, fork(1, 2), heat(5), fork(3, 4), heat(4), join(5), join(6), end());
     }
 
@@ -144,7 +148,8 @@ public final class ReleaseTest extends Charts {
         due("END behind the inner JOIN", 3, fork(1, 2), heat(6), fork(3, 4), heat(5), heat(5), join(7), join(8), end(),
                 end());
         due("a LOOP behind it to the FORK", 0, fork(1, 2), heat(3), heat(3), join(4), loop(5, 0), end());
-        due("a LOOP behind it to before the FORK", 0, heat(1), fork(2, 3), heat(4), heat(4), join(5), loop(6, 0), end());
+        due("a LOOP behind it to before the FORK", 0, heat(1), fork(2, 3), heat(4), heat(4), join(5), loop(6, 0),
+                end());
         due("a CHOICE past all of it", 0, sample(0, 1), choice(0, 2, 6), fork(3, 4), heat(5), heat(5), join(6), end());
         due("a LOOP behind the inner JOIN to the inner FORK", 0, fork(1, 2), heat(7), fork(3, 4), heat(5), heat(5),
                 join(6), loop(7, 2), join(8), end());
@@ -162,7 +167,8 @@ public final class ReleaseTest extends Charts {
         due("a CHOICE from one branch to the other", 3, sample(0, 1), fork(2, 3), choice(0, 3, 4), heat(4), join(5),
                 end());
         due("a CHOICE into a branch", 3, sample(0, 1), choice(0, 2, 3), fork(3, 4), heat(5), heat(5), join(6), end());
-        due("a CHOICE within a branch", 0, sample(0, 1), fork(2, 5), choice(0, 3, 4), heat(6), heat(6), heat(6), join(7),
+        due("a CHOICE within a branch", 0, sample(0, 1), fork(2, 5), choice(0, 3, 4), heat(6), heat(6), heat(6),
+                join(7),
                 end());
     }
 
@@ -180,7 +186,8 @@ public final class ReleaseTest extends Charts {
         Check.about("Each branch of a FORK ends with one JOIN, the same for both.");
         due("one JOIN each", 3, fork(1, 2), heat(3), heat(4), join(5), join(5), end());
         due("one branch ends with two", 3, sample(0, 1), fork(2, 3), choice(0, 4, 5), heat(4), join(5), join(6), end());
-        due("both end with two", 3, sample(0, 1), fork(2, 3), choice(0, 4, 5), choice(0, 4, 5), join(6), join(6), end());
+        due("both end with two", 3, sample(0, 1), fork(2, 3), choice(0, 4, 5), choice(0, 4, 5), join(6), join(6),
+                end());
         due("both end with two, one behind the other", 3, sample(0, 1), fork(2, 3), choice(0, 4, 5), choice(0, 4, 5),
                 join(5), join(6), end());
     }
@@ -192,7 +199,8 @@ public final class ReleaseTest extends Charts {
         due("SAMPLE behind it", 4, heat(1), choice(0, 2, 2), sample(0, 3), end());
         for (int name = 0; name < 4; name++) {
             for (int other = 0; other < 4; other++) {
-                due("name " + other + " for " + name, name == other ? 0 : 4, sample(other, 1), choice(name, 2, 2), end());
+                due("name " + other + " for " + name, name == other ? 0 : 4, sample(other, 1), choice(name, 2, 2),
+                        end());
             }
         }
         due("steps between them", 0, sample(0, 1), heat(2), loop(3, 1), choice(0, 4, 4), end());
@@ -209,7 +217,8 @@ public final class ReleaseTest extends Charts {
         due("only where a LOOP goes back to", 4, heat(2), sample(0, 2), loop(3, 1), choice(0, 4, 4), end());
         due("the way back needs no SAMPLE", 0, sample(0, 1), choice(0, 2, 2), loop(3, 1), end());
         due("a LOOP back to before the SAMPLE", 0, heat(1), sample(0, 2), choice(0, 3, 3), loop(4, 0), end());
-        due("SAMPLE comes in the first round, but behind", 4, heat(1), choice(0, 2, 2), sample(0, 3), loop(4, 0), end());
+        due("SAMPLE comes in the first round, but behind", 4, heat(1), choice(0, 2, 2), sample(0, 3), loop(4, 0),
+                end());
         Check.about("(Where there is no such way, it is measured.)");
         due("a CHOICE to which only a LOOP goes back", 0, heat(2), choice(3, 2, 2), loop(3, 1), end());
         due("one behind it", 0, heat(3), heat(2), choice(3, 3, 3), loop(4, 1), end());
@@ -225,11 +234,13 @@ public final class ReleaseTest extends Charts {
         due("in both", 0, fork(1, 2), sample(0, 3), sample(0, 3), join(4), choice(0, 5, 5), end());
         due("in neither", 4, fork(1, 2), heat(3), heat(3), join(4), choice(0, 5, 5), end());
         due("before the FORK", 0, sample(0, 1), fork(2, 3), heat(4), heat(4), join(5), choice(0, 6, 6), end());
-        due("before the FORK, for one in a branch", 0, sample(0, 1), fork(2, 3), heat(4), choice(0, 4, 4), join(5), end());
+        due("before the FORK, for one in a branch", 0, sample(0, 1), fork(2, 3), heat(4), choice(0, 4, 4), join(5),
+                end());
         due("farther behind", 0, fork(1, 2), sample(0, 3), heat(3), join(4), heat(5), choice(0, 6, 6), end());
         due("in the branch beside", 4, fork(1, 2), sample(0, 3), choice(0, 3, 3), join(4), end());
         due("in the branch beside, the other way round", 4, fork(1, 2), choice(0, 3, 3), sample(0, 3), join(4), end());
-        due("a name in each", 0, fork(1, 2), sample(0, 3), sample(1, 3), join(4), choice(0, 5, 5), choice(1, 6, 6), end());
+        due("a name in each", 0, fork(1, 2), sample(0, 3), sample(1, 3), join(4), choice(0, 5, 5), choice(1, 6, 6),
+                end());
         due("in an inner branch", 0, fork(1, 2), heat(6), fork(3, 4), sample(0, 5), heat(5), join(6), join(7),
                 choice(0, 8, 8), end());
         due("in an inner branch, for the outer beside it", 4, fork(1, 2), choice(0, 6, 6), fork(3, 4), sample(0, 5),

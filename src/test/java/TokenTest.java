@@ -43,7 +43,8 @@ public final class TokenTest extends Charts {
     /** The second token goes on from the JOIN, and comes to the FORK again: the third is behind it. */
     private static void forkAgain() {
         Check.about("FORK: the token goes to NEXT, a new one to OTHER");
-        BatchHall hall = running(0, fork(1, 2), heat(0, 1, 4), heat(1, 1, 3), loop(4, 2), join(5), loop(3, 6, 0), end());
+        BatchHall hall = running(0, fork(1, 2), heat(0, 1, 4), heat(1, 1, 3), loop(4, 2), join(5), loop(3, 6, 0),
+                end());
         for (int round = 0; round < 4; round++) {
             tokensAre("round " + round, hall, 17, 18);
             hall.tick();
