@@ -386,11 +386,11 @@ public final class PhaseTest extends Charts {
         }
     }
 
-    /** Far more moves within a tick than any bound that is guessed too low would allow. */
+    /** As many moves within a tick as 12 steps allow, some 20 million: a bound that is guessed too low fails here. */
     private static void loopsInLoops() {
         Check.about("at its turn a token goes on until it is at a phase, or waits at a JOIN");
         BatchHall hall = running(0, sample(0, 1), choice(0, 2, 2), loop(5, 3, 1), loop(5, 4, 1), loop(5, 5, 1),
-                loop(5, 6, 1), loop(5, 7, 1), loop(5, 8, 1), end());
+                loop(5, 6, 1), loop(5, 7, 1), loop(5, 8, 1), loop(5, 9, 1), loop(5, 10, 1), loop(5, 11, 1), end());
         hall.measure(0, 0, 0);
         Check.same("COMPLETE within a tick", hall.tick(), 0);
         stateIs(hall, 0, COMPLETE);
